@@ -5,6 +5,7 @@ public final class ShelfSlots {
 
     private static final int SETTINGS = 3;
     private static final int SLOTS = 30;
+    private static final int AISLES = 5;
     private static final int PLACES = 6;
     private static final int GOODS = 16;
     private static final int BASKET_GOODS = 6;
@@ -588,7 +589,6 @@ public final class ShelfSlots {
     private static final class Walker {
         private static final int FAR = 1000000;
         private final int[] stops = new int[BASKET_GOODS];
-        private final int[] ways = new int[(1 << BASKET_GOODS) * BASKET_GOODS];
         private int many;
 
         /** The desk is one step before the slot 0, so what is nearest to that slot is nearest to the desk. */
@@ -645,45 +645,33 @@ public final class ShelfSlots {
             stops[to] = good;
         }
 
-        /** ways tells, for a set of stops and the last one of them, the shortest way from the desk. */
+        /**
+         * The way in front of the aisles and the aisles off it part, but never meet again: a walk takes each bit of
+         * way that leads to one of its goods there and back at least, and no more, if it goes aisle by aisle.
+         */
         int shortestOf(Shed shed, int basket) {
             listGoods(basket);
-            startWays(shed);
-            int sets = 1 << many;
-            for (int set = 1; set < sets; set++) {
-                for (int last = 0; last < many; last++) {
-                    if ((set >> last & 1) != 0) {
-                        goOn(shed, set, last);
-                    }
+            int there = 1;
+            int lastAisle = 0;
+            for (int aisle = 0; aisle < AISLES; aisle++) {
+                int place = lastPlace(shed, aisle);
+                if (place != NONE) {
+                    there += place;
+                    lastAisle = aisle;
                 }
             }
-            int least = FAR;
-            for (int last = 0; last < many; last++) {
-                int back = shed.deskSteps(shed.slotOf[stops[last]]);
-                least = Math.min(least, ways[(sets - 1) * BASKET_GOODS + last] + back);
-            }
-            return least;
+            return 2 * (there + shed.settings[CROSS] * lastAisle);
         }
 
-        private void startWays(Shed shed) {
-            for (int index = 0; index < ways.length; index++) {
-                ways[index] = FAR;
-            }
-            for (int stop = 0; stop < many; stop++) {
-                ways[(1 << stop) * BASKET_GOODS + stop] = shed.deskSteps(shed.slotOf[stops[stop]]);
-            }
-        }
-
-        private void goOn(Shed shed, int set, int last) {
-            int way = ways[set * BASKET_GOODS + last];
-            int slot = shed.slotOf[stops[last]];
-            for (int next = 0; next < many; next++) {
-                if ((set >> next & 1) == 0) {
-                    int index = (set | 1 << next) * BASKET_GOODS + next;
-                    int longer = way + shed.stepsBetween(slot, shed.slotOf[stops[next]]);
-                    ways[index] = Math.min(ways[index], longer);
+        private int lastPlace(Shed shed, int aisle) {
+            int last = NONE;
+            for (int rank = 0; rank < many; rank++) {
+                int slot = shed.slotOf[stops[rank]];
+                if (slot / PLACES == aisle) {
+                    last = Math.max(last, slot % PLACES);
                 }
             }
+            return last;
         }
     }
 
@@ -841,8 +829,6 @@ public final class ShelfSlots {
 
         void startAnew() {
             due = ORDER;
-            numberMark = NO_MARK;
-            mayEnd = false;
         }
 
         boolean mayStop() {

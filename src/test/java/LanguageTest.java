@@ -21,7 +21,7 @@ public final class LanguageTest {
         "NOT_POSSIBLE=-5", "NONE=-6", "MOVES=0", "FORGET=1", "CROSS=2");
     // Nothing else of the library is needed; what is added here has to stand in rule 4 of LANGUAGE.md.
     private static final Set<String> LIBRARY = Set.of("java/lang/Object.<init>", "java/lang/System.arraycopy",
-        "java/lang/Integer.bitCount", "java/lang/Math.min");
+        "java/lang/Integer.bitCount", "java/lang/Math.min", "java/lang/Math.max");
 
     private static int wrong = 0;
 

@@ -30,6 +30,15 @@ final class Calls {
         }
     }
 
+    /** The same rows on a new ShelfSlots and on the plain model, so that no row is due by a slip. */
+    static List<String> wrongOfBoth(String... rows) {
+        List<String> out = new ArrayList<>(new Calls(new ShelfSlots()).wrong(rows));
+        for (String one : new Calls(new Model()).wrong(rows)) {
+            out.add("the model's " + one);
+        }
+        return out;
+    }
+
     /** Makes the calls of the rows, and tells each one whose answer is not due. */
     List<String> wrong(String... rows) {
         List<String> out = new ArrayList<>();
@@ -41,6 +50,7 @@ final class Calls {
             for (int time = 0; mark >= 0 && time < answers.size(); time++) {
                 if (answers.get(time) != due) {
                     out.add(call + " answered " + answers.get(time) + " the time " + time + ", due is " + due);
+                    break;
                 }
             }
         }

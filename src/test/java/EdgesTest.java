@@ -1,6 +1,3 @@
-import java.util.ArrayList;
-import java.util.List;
-
 /**
  * Each sentence of the document that names an edge: the last value that is taken and the first that is refused on each
  * side, empty and full, what wraps around. Each row is a call with its due answer, worked out by hand; the plain model
@@ -53,11 +50,7 @@ public final class EdgesTest {
 
     private static void edge(String sentence, String... rows) {
         edges++;
-        List<String> found = new ArrayList<>(new Calls(new ShelfSlots()).wrong(rows));
-        for (String one : new Calls(new Model()).wrong(rows)) {
-            found.add("the model's " + one);
-        }
-        for (String one : found) {
+        for (String one : Calls.wrongOfBoth(rows)) {
             wrong++;
             System.out.println("promise " + promise + ", " + sentence + ": " + one);
         }

@@ -1,12 +1,16 @@
-import java.io.DataInputStream;
 import java.io.IOException;
-import java.io.InputStream;
 import java.lang.reflect.Constructor;
 import java.lang.reflect.Field;
 import java.lang.reflect.Method;
 import java.lang.reflect.Modifier;
+import java.nio.file.Files;
+import java.nio.file.Path;
+import java.util.ArrayDeque;
 import java.util.Arrays;
+import java.util.Deque;
+import java.util.HashMap;
 import java.util.List;
+import java.util.Map;
 import java.util.Set;
 import java.util.TreeSet;
 
@@ -23,6 +27,13 @@ public final class LanguageTest {
     private static final Set<String> LIBRARY = Set.of("java/lang/Object.<init>", "java/lang/System.arraycopy",
         "java/lang/Integer.bitCount", "java/lang/Math.min", "java/lang/Math.max");
 
+    // Remainders and signs of floats, exceptions, casts, locks, rows of rows: none of them is needed.
+    private static final int[] FORBIDDEN = {114, 115, 118, 119, ClassCode.THROW, ClassCode.CAST, ClassCode.LOCK,
+        ClassCode.ROWS_OF_ROWS};
+    private static final int MOST_LINES = 60;
+    private static final int MOST_DEPTH = 8;
+
+    private static final Map<String, List<String>> calls = new HashMap<>();
     private static int wrong = 0;
 
     private static void check(boolean holds, String what) {
@@ -43,6 +54,8 @@ public final class LanguageTest {
             check(Modifier.isStatic(bits) && !Modifier.isPublic(bits) && !Modifier.isProtected(bits), one + " is static and not public");
             checkClass(one);
         }
+        checkDepth();
+        checkSigns();
         System.out.println(wrong == 0 ? "the class keeps to the language" : wrong + " rules are broken");
         if (wrong != 0) {
             System.exit(1);
@@ -93,35 +106,59 @@ public final class LanguageTest {
             check(method.getParameterCount() <= 7, method + " takes at most seven parameters");
             check(!Modifier.isSynchronized(method.getModifiers()), method + " is not synchronized");
         }
-        String file = one.getName() + ".class";
-        try (InputStream in = one.getResourceAsStream(file)) {
-            checkPool(new DataInputStream(in), one.getName());
+        ClassCode code = new ClassCode(one);
+        for (String member : code.used) {
+            boolean isOwn = member.startsWith("ShelfSlots") || member.startsWith("[");
+            check(isOwn || LIBRARY.contains(member), one + " uses " + member);
+        }
+        for (ClassCode.Body body : code.bodies) {
+            checkBody(body);
+            calls.put(body.name, body.calls);
         }
     }
 
-    /** Reads the constant pool: each method of another class that is called stands in it. */
-    private static void checkPool(DataInputStream in, String name) throws IOException {
-        in.skipBytes(8);
-        int size = in.readUnsignedShort();
-        String[] texts = new String[size];
-        int[][] pairs = new int[size][];
-        for (int index = 1; index < size; index++) {
-            int tag = in.readUnsignedByte();
-            switch (tag) {
-                case 1: texts[index] = in.readUTF(); break;
-                case 3: case 4: in.readInt(); break;
-                case 5: case 6: in.readLong(); index++; break;
-                case 7: case 8: case 16: pairs[index] = new int[] {tag, in.readUnsignedShort(), 0}; break;
-                case 9: case 10: case 11: case 12: pairs[index] = new int[] {tag, in.readUnsignedShort(), in.readUnsignedShort()}; break;
-                default: throw new IOException("a lambda, or joined texts, in " + name);
-            }
+    private static void checkBody(ClassCode.Body body) {
+        check(body.lines <= MOST_LINES, body.name + " has " + body.lines + " lines");
+        check(body.catches == 0, body.name + " catches something");
+        for (int instruction : FORBIDDEN) {
+            check(!body.instructions.contains(instruction), body.name + " holds the instruction " + instruction);
         }
-        for (int[] pair : pairs) {
-            if (pair != null && (pair[0] == 9 || pair[0] == 10 || pair[0] == 11)) {
-                String owner = texts[pairs[pair[1]][1]];
-                String member = owner + "." + texts[pairs[pair[2]][1]];
-                check(owner.startsWith("ShelfSlots") || owner.startsWith("[") || LIBRARY.contains(member), name + " uses " + member);
-            }
+        boolean isConstructor = body.name.contains(".<init> ");
+        boolean mayMake = isConstructor || body.name.startsWith("ShelfSlots$Shed.notePicked ");
+        check(mayMake || !body.instructions.contains(ClassCode.NEW), body.name + " makes an object");
+        boolean makesRow = body.instructions.contains(ClassCode.NEW_ROW) || body.instructions.contains(ClassCode.NEW_OBJECTS);
+        check(isConstructor || !makesRow, body.name + " makes a row");
+    }
+
+    /** Calls that are no recursion go at most eight deep; there is no recursion here. */
+    private static void checkDepth() {
+        int deepest = 0;
+        for (String method : calls.keySet()) {
+            deepest = Math.max(deepest, depth(method, new ArrayDeque<>()));
+        }
+        check(deepest <= MOST_DEPTH, "calls go " + deepest + " deep");
+    }
+
+    private static int depth(String method, Deque<String> open) {
+        if (!calls.containsKey(method)) {
+            return 0;
+        }
+        if (open.contains(method)) {
+            check(false, method + " calls itself");
+            return 0;
+        }
+        open.push(method);
+        int below = 0;
+        for (String called : calls.get(method)) {
+            below = Math.max(below, depth(called, open));
+        }
+        open.pop();
+        return below + 1;
+    }
+
+    private static void checkSigns() throws IOException {
+        for (byte sign : Files.readAllBytes(Path.of("src/main/java/ShelfSlots.java"))) {
+            check(sign > 0, "the file holds a sign above 127");
         }
     }
 }
